@@ -939,7 +939,7 @@ public final class TideIsland {
 
     /** The bytes that wait to be read as a text. */
     private static final class Tape {
-        static final int END = 0, BLANK = 1, LETTER = 2, DIGIT = 3, SIGN = 4;
+        private static final int END = 0, BLANK = 1, LETTER = 2, DIGIT = 3, SIGN = 4;
 
         int length;
         private final int[] bytes = new int[TAPE];
@@ -1243,44 +1243,38 @@ public final class TideIsland {
             high = 0;
             for (int i = 0; i < sizes[text]; i++) {
                 int what = rows[text][i];
-                switch (what) {
-                    case -1: push(first); break;
-                    case -2: push(second); break;
-                    case -3: push(third); break;
-                    case -'!': push(bit(pop() == 0)); break;
-                    default: pushNumberOrSign(what);
+                if (what >= 0) {
+                    push(what);
+                } else if (what == -1) {
+                    push(first);
+                } else if (what == -2) {
+                    push(second);
+                } else if (what == -3) {
+                    push(third);
+                } else if (what == -'!') {
+                    push(pop() == 0 ? 1 : 0);
+                } else {
+                    int right = pop();
+                    int left = pop();
+                    push(join(-what, left, right));
                 }
             }
             return pop();
         }
 
-        private void pushNumberOrSign(int what) {
-            if (what >= 0) {
-                push(what);
-                return;
-            }
-            int right = pop();
-            int left = pop();
-            push(joined(-what, left, right));
-        }
-
-        private static int joined(int sign, int left, int right) {
+        private static int join(int sign, int left, int right) {
             switch (sign) {
-                case '|': return bit(left != 0 || right != 0);
-                case '&': return bit(left != 0 && right != 0);
-                case '<': return bit(left < right);
-                case '=': return bit(left == right);
-                case '>': return bit(left > right);
+                case '|': return left != 0 || right != 0 ? 1 : 0;
+                case '&': return left != 0 && right != 0 ? 1 : 0;
+                case '<': return left < right ? 1 : 0;
+                case '=': return left == right ? 1 : 0;
+                case '>': return left > right ? 1 : 0;
                 case '+': return left + right;
                 case '-': return left - right;
                 case '*': return left * right;
                 case '/': return right == 0 ? 0 : left / right;
                 default: return 0;
             }
-        }
-
-        private static int bit(boolean yes) {
-            return yes ? 1 : 0;
         }
 
         private void push(int v) {

@@ -11,7 +11,9 @@ public final class HousesTest {
         goingByHours();
         corn();
         flight();
+        flightAtTheEdge();
         storms();
+        chance();
         lastHour();
         Due.end();
     }
@@ -194,6 +196,21 @@ public final class HousesTest {
         Due.due("lost", x.count(3), 14);
     }
 
+    private static void flightAtTheEdge() {
+        // from a cell, one that is dry, and where the house comes to
+        int[][] due = {{5, 6, NONE}, {6, 5, NONE}, {11, 12, NONE}, {12, 11, NONE}, {6, 0, 0}, {5, 4, 4}, {4, 5, 5}, {1, 0, 0},
+            {23, 29, 29}, {24, 18, 18}, {0, 6, 6}, {0, 1, 1}, {29, 28, 28}, {29, 23, 23}, {28, 29, 29}, {0, 29, NONE}, {29, 0, NONE},
+            {24, 0, NONE}, {2, 26, NONE}, {14, 7, NONE}};
+        for (int[] d : due) {
+            TideIsland x = new TideIsland();
+            x.house(1);
+            x.settle(0, d[0]);
+            x.land(d[1], 0, 20);
+            Due.due("from " + d[0] + " to " + d[1], x.run(1), d[2] == NONE ? 1 : 0);
+            Due.due("from " + d[0] + " to " + d[1], x.houseTold(0, 1), d[2]);
+        }
+    }
+
     private static void storms() {
         TideIsland x = new TideIsland();
         x.sea(4, 100);
@@ -227,6 +244,20 @@ public final class HousesTest {
         Due.due("run 0", x.run(0), BAD);
         Due.due("run 100", x.run(100), BAD);
         Due.due("run -1", x.run(-1), BAD);
+    }
+
+    private static void chance() {
+        int rest = (1103515245 + 12345 >>> 8) % 100;
+        TideIsland x = new TideIsland();
+        x.sea(3, 4);
+        x.sea(4, rest);
+        x.run(1);
+        Due.due("as much as the chance", x.count(4), 3);
+        TideIsland y = new TideIsland();
+        y.sea(3, 4);
+        y.sea(4, rest + 1);
+        y.run(1);
+        Due.due("below the chance", y.count(4), 5);
     }
 
     private static void lastHour() {

@@ -195,6 +195,9 @@ public final class ImagesTest {
 
     private static void count() {
         TideIsland x = new TideIsland();
+        x.land(1, 0, 20);
+        Due.due("peak", x.count(5), 1);
+        x.land(1, 0, 0);
         x.land(7, 0, 20);
         x.land(8, 2, 18);
         Due.due("peak", x.count(5), 7);

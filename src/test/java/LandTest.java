@@ -83,6 +83,13 @@ public final class LandTest {
                 Due.due("told " + kind + " " + what, x.told(4, what), due[kind][what]);
             }
         }
+        x.turns(4, 1);
+        int[][] corn = {{0, 10}, {9, 10}, {10, 9}, {19, 9}, {20, 8}, {99, 1}};
+        for (int[] c : corn) {
+            x.set(4, 0, c[0]);
+            Due.due("room with corn " + c[0], x.told(4, 3), c[1]);
+        }
+        x.set(4, 0, 37);
         Tapes.text(x, "room 3");
         int[] room = {3, 0, 0, 0, 0, 1};
         for (int kind = 0; kind < 6; kind++) {

@@ -8,6 +8,7 @@ public final class TextsTest {
         faults();
         nesting();
         usedUp();
+        oneByOne();
         full();
         values();
         names();
@@ -69,7 +70,8 @@ public final class TextsTest {
             "tide 1<2+3<4", "10", "tide (1<2=3)", "9", "tide (1", "7", "tide (1 ", "8", "tide ()", "6", "tide 1)", "6", "tide )", "5",
             "tide (1))", "8", "tide !", "6", "tide !)", "6", "tide h!", "6", "tide h(1)", "6", "tide (1)2", "8", "tide (1)(2)", "8",
             "tide 1&", "7", "tide 1&|2", "7", "tide 1 && 2", "8", "tide a", "5", "tide tide", "5", "tide H", "5", "tide 1%2", "6",
-            "tide 1,", "6", "tide\t1", "4", "(", "0", "room h\0", "6", "tide -1", "5", "grow (c*(h-1)", "13"};
+            "tide 1,", "6", "tide\t1", "4", "(", "0", "room h\0", "6", "tide -1", "5", "tidea 1", "0", "tidez 1", "0",
+            "aide 1", "0", "brow 1", "0", "zoom 1", "0", "tied 1", "0", "gro w1", "0", "tide az", "5", "grow (c*(h-1)", "13"};
         for (int i = 0; i < texts.length; i += 2) {
             TideIsland x = new TideIsland();
             Due.due("'" + texts[i] + "'", Tapes.text(x, texts[i]), -100 - Integer.parseInt(texts[i + 1]));
@@ -117,6 +119,18 @@ public final class TextsTest {
         Due.due("an empty tape", x.text(), -100);
     }
 
+    private static void oneByOne() {
+        TideIsland x = new TideIsland();
+        Due.due("a fault", Tapes.text(x, "tide !!(5*(6*!(7"), -116);
+        Due.due("text", Tapes.text(x, "tide 7"), 0);
+        Due.due("nothing is left of the fault", x.sky(0, 0), 7);
+        for (int i = 1; i < 14; i++) {
+            Due.due("text", Tapes.text(x, "tide " + i + "+1".repeat(20)), i);
+            Due.due("level", x.sky(0, 0), i + 20);
+            Due.due("operands", x.textTold(i, 1), 21);
+        }
+    }
+
     private static void full() {
         TideIsland x = new TideIsland();
         for (int i = 0; i < 14; i++) {
@@ -152,6 +166,7 @@ public final class TextsTest {
         value("2=2", 1);
         value("3>2", 1);
         value("2>3", 0);
+        value("2>2", 0);
         value("5|0", 1);
         value("0|0", 0);
         value("5&6", 1);
