@@ -1,3 +1,5 @@
+import java.lang.reflect.Field;
+import java.lang.reflect.Modifier;
 import java.nio.file.Files;
 import java.nio.file.Path;
 import java.util.List;
@@ -10,21 +12,40 @@ public final class LanguageTest {
         List<String> lines = Files.readAllLines(Path.of("src/main/java/TideIsland.java"));
         String code = String.join("\n", lines).replaceAll("(?s)/\\*.*?\\*/", "").replaceAll("//[^\n]*", "")
             .replaceAll("\"[^\"\n]*\"", "\"\"").replaceAll("'[^'\n]+'", "0");
-        for (String word : List.of("throw", "throws", "try", "catch", "finally", "synchronized", "assert", "native", "transient",
-            "volatile", "protected", "package", "equals", "hashCode", "toString", "float", "double", "while (true)")) {
+        for (String word : List.of("throw", "throws", "try", "catch", "finally", "synchronized", "assert", "protected", "package",
+            "hashCode", "while (true)", "for (;;)")) {
             none(code, "\\b" + Pattern.quote(word) + "(?!\\w)", word);
         }
-        none(code, "->|::", "a lambda or a reference to a method");
+        none(code, "(?m)^(?!\\s*(case|default)\\b).*->|::", "a lambda or a reference to a method");
         none(code, "\\bstatic\\s*\\{", "a static block");
-        none(code, "\\bimport (?!java\\.util\\.Arrays;)", "an import of something else");
-        none(code, "\\bclass (?!TideIsland\\b)(?<!static final class )", "a class that is not static and final");
+        none(code, "\\bimport (?!java\\.util\\.(Arrays|ArrayList|List|Iterator);)", "an import of something else");
         none(code, "\\bnew \\w+\\([^)]*\\)\\s*\\{", "a class without a name");
         none(code, "\"\"\\s*\\+|\\+\\s*\"\"", "texts joined by +");
-        none(code, "\\b(System|Arrays|Math|Integer)\\.(?!arraycopy|fill|max|min|bitCount)", "another call of the library");
-        none(code, "(?m)^\\s*static (?!final|boolean|int)", "static state");
+        none(code, "\\bSystem\\.(?!arraycopy\\b)", "another call of System");
+        none(code, "\\bArrays\\.(?!(copyOf|copyOfRange|fill)\\b)", "another call of Arrays");
+        none(code, "\\b(Math|Integer|Long)\\.\\w+Exact\\b", "a function that throws");
+        none(code, "(?m)^\\s*(private )?static (?!final )[\\w\\[\\]]+ \\w+( =|;)", "static state");
         none(code, "\\((?:[^(),]*,){7}[^()]*\\)\\s*\\{", "eight parameters");
+        classes();
         shortMethods(lines);
         Due.end();
+    }
+
+    private static void classes() {
+        Class<?>[] inside = TideIsland.class.getDeclaredClasses();
+        Due.due("classes", inside.length + 1 > 12 ? inside.length + 1 : 0, 0);
+        fields(TideIsland.class);
+        for (Class<?> one : inside) {
+            fields(one);
+        }
+    }
+
+    private static void fields(Class<?> one) {
+        int many = 0;
+        for (Field field : one.getDeclaredFields()) {
+            many += Modifier.isStatic(field.getModifiers()) ? 0 : 1;
+        }
+        Due.due("fields of " + one.getName(), many > 20 ? many : 0, 0);
     }
 
     private static void none(String code, String pattern, String what) {

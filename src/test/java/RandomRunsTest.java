@@ -4,7 +4,7 @@ import java.util.Random;
 
 /** Runs of calls drawn by lot (always the same ones) on the class and on the model: their answers are the same. */
 public final class RandomRunsTest {
-    private static final int RUNS = 1500, CALLS = 500;
+    private static final int RUNS = 3000, CALLS = 512;
     private static final int[] EDGES = {Integer.MIN_VALUE, Integer.MAX_VALUE, -1, 0, 1, TideIsland.NONE, TideIsland.BAD,
         24, 25, 29, 30, 48, 99, 100, 199, 200, 32767, 32768, -32769, 99999, 100000, -99999, -100000};
     private static final String[] WORDS = {"h", "d", "s", "c", "t", "0", "1", "7", "10", "24", "9999", "(", ")", "!", "|", "&",
@@ -15,6 +15,7 @@ public final class RandomRunsTest {
     private final TideIsland island = new TideIsland();
     private final Model model = new Model();
     private final Method[] calls;
+    private int made;
 
     private RandomRunsTest(int run, Method[] calls) {
         this.run = run;
@@ -37,7 +38,7 @@ public final class RandomRunsTest {
             both("seed", random.nextInt());
             both("deal");
         }
-        for (int i = 0; i < CALLS; i++) {
+        for (int i = 0; i < CALLS && made < CALLS; i++) {
             int lot = random.nextInt(40);
             if (lot < 2) {
                 tellText();
@@ -148,7 +149,12 @@ public final class RandomRunsTest {
         return number;
     }
 
+    /** What an object answers behind its 512th call is free: no such call is made. */
     private void both(String name, int... numbers) throws Exception {
+        if (made >= CALLS) {
+            return;
+        }
+        made++;
         Class<?>[] types = new Class<?>[numbers.length];
         Object[] boxed = new Object[numbers.length];
         for (int i = 0; i < numbers.length; i++) {
