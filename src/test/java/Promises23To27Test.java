@@ -9,6 +9,7 @@ public final class Promises23To27Test {
         trimBad();
         text();
         textFault();
+        textBehindAFault();
         textFull();
         textToldKey();
         textToldMany();
@@ -137,6 +138,21 @@ public final class Promises23To27Test {
         }
         Due.due("ahead of FULL", Tapes.text(x, "tide (1"), -107);
         Due.due("an empty tape, ahead of FULL", x.text(), -100);
+    }
+
+    private static void textBehindAFault() {
+        Doc.says("Promise 25", "THE TAPE is a TEXT: its number. -100 less the place of its FAULT;");
+        String[] faults = {"tide 5*)", "tide 5-", "tide ((((((((", "tide !!!!!!!!", "tide 1<2<3", "room t+c", "tide 5*(6-(7/!"};
+        int[] places = {7, 7, 13, 13, 8, 7, 14};
+        TideIsland x = new TideIsland();
+        for (int i = 0; i < faults.length; i++) {
+            Due.due(faults[i], Tapes.text(x, faults[i]), -100 - places[i]);
+            Due.due("nothing of it stays", Tapes.text(x, "tide ((((((((!!!!!!!!" + (i % 2) + "+7))))))))"), i);
+            Due.due("level", x.sky(0, 0), 7 + i % 2);
+            Due.due("numbers", x.textTold(i, 1), 2);
+            Due.due(faults[i], Tapes.text(x, faults[i]), -100 - places[i]);
+            Due.due("nothing of it stays", Tapes.text(x, "tide 3<4<5"), -108);
+        }
     }
 
     private static void textFull() {

@@ -102,11 +102,16 @@ public final class Promises37To41Test {
         x.run(50);
         x.seed(9);
         x.deal();
+        int z = x.count(9);
+        int corn = x.count(2);
         Due.due("by the image, not by what is now", checked(x, 2, 2, 2, 2, 4), 0);
         Due.due("what is now is left alone", x.count(0), 50);
+        Due.due("and its z", x.count(9), z);
+        Due.due("and its corn", x.count(2), corn);
         x.back();
         Due.due("the image is left alone", x.count(0), 0);
         Due.due("and its corn", x.count(2), 0);
+        Due.due("and its z", x.count(9), 1);
     }
 
     private static void checkHours() {

@@ -17,8 +17,10 @@ public final class Terms2Test {
         peak();
         peakOfSeveral();
         cut();
+        cutOnACell();
         cutPeakNotDry();
         lack();
+        lackOfAllHouses();
         lackAtLeast0();
         going();
         goingDryInEachHour();
@@ -221,6 +223,24 @@ public final class Terms2Test {
         Due.due("a house that is not dry", x.cut(3), 4 + 8);
     }
 
+    private static void cutOnACell() {
+        Doc.says("Terms 2", "CUT: HOUSES on a CELL that is DRY then,");
+        for (int colour = 0; colour < 2; colour++) {
+            TideIsland x = new TideIsland();
+            for (int cell = 0; cell < 30; cell++) {
+                x.land(cell, 0, (cell / 6 + cell) % 2 == colour ? 20 : 0);
+            }
+            x.house(1);
+            Due.due("half of the cells are apart", x.sky(0, 2), 15);
+            Due.due("a house that is nowhere is not cut", x.cut(0), 0);
+            for (int cell = 0; cell < 30; cell++) {
+                x.settle(0, cell);
+                boolean dry = (cell / 6 + cell) % 2 == colour;
+                Due.due("on cell " + cell, x.cut(0), dry && cell != x.count(5) ? 1 : 0);
+            }
+        }
+    }
+
     private static void cutPeakNotDry() {
         Doc.says("Terms 2", "(if that is DRY; else all of them).");
         TideIsland x = Islands.with("tide h");
@@ -253,6 +273,20 @@ public final class Terms2Test {
         Due.due("16 and 15", x.lack(3), 198 - 31);
         Due.due("16", x.lack(5), 198 - 16);
         Due.due("none", x.lack(9), 198);
+    }
+
+    private static void lackOfAllHouses() {
+        Doc.says("Terms 2", "LACK: MANY of all HOUSES, together,");
+        TideIsland x = new TideIsland();
+        x.keep();
+        for (int house = 0; house < 8; house++) {
+            x.house(99);
+            Due.due("all of them", x.lack(0), 99 * (house + 1));
+        }
+        x.back();
+        Due.due("none of those that are gone", x.lack(0), 0);
+        x.house(7);
+        Due.due("one", x.lack(0), 7);
     }
 
     private static void lackAtLeast0() {
